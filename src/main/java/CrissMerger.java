@@ -15,7 +15,7 @@ public final class CrissMerger {
     private static final int COUNTS = 11, TRAITS = 7;
     private static final int MOST_LOTS = 10;
     private static final long LOT_FACTOR = 48271L, LOT_MODULUS = 2147483647L;
-    /** A way back halves a chance at most once a VERSION, so this many parts never leave a rest. */
+    /** A WAY BACK halves a chance at most once a VERSION, so this many parts never leave a rest. */
     private static final long WHOLE = 1L << VERSIONS;
 
     private final Strip[] rows = new Strip[ROWS];
@@ -216,24 +216,21 @@ public final class CrissMerger {
     }
 
     public int would(int a, int b) {
-        int refusal = refusalToMerge(a, b);
+        int refusal = mergeAside(merged, a, b, false);
         if (refusal != 0) {
             return refusal;
-        }
-        if (!mergeTo(merged, a, b, false)) {
-            return SPENT;
         }
         told = merged.torn;
         return merged.total(CONFLICTS);
     }
 
     public int mirrored(int a, int b) {
-        int refusal = refusalToMerge(a, b);
+        int refusal = mergeAside(merged, a, b, false);
+        if (refusal == 0) {
+            refusal = mergeAside(mirror, b, a, true);
+        }
         if (refusal != 0) {
             return refusal;
-        }
-        if (!mergeTo(merged, a, b, false) || !mergeTo(mirror, b, a, true)) {
-            return SPENT;
         }
         return merged.isLike(mirror) ? 1 : 0;
     }
@@ -296,14 +293,8 @@ public final class CrissMerger {
     }
 
     public int merge(int a, int b) {
-        int refusal = refusalToMerge(a, b);
-        if (refusal != 0) {
-            return refusal;
-        }
-        if (!mergeTo(merged, a, b, false)) {
-            return SPENT;
-        }
-        return book.isFull() ? FULL : book.add(merged, a, b);
+        int refusal = mergeAside(merged, a, b, false);
+        return refusal != 0 ? refusal : book.add(merged, a, b);
     }
 
     public int undo(int n) {
@@ -333,10 +324,11 @@ public final class CrissMerger {
         if (!isKept(k)) {
             return BAD;
         }
-        if (keptSize(k) == MISSING) {
+        Book from = kept[k];
+        if (from == null || from.size == 0) {
             return found(NOTHING);
         }
-        book.become(kept[k]);
+        book.become(from);
         return book.size;
     }
 
@@ -350,9 +342,7 @@ public final class CrissMerger {
         long lot = seed;
         for (int i = 0; i < n; i++) {
             lot = lot * LOT_FACTOR % LOT_MODULUS;
-            if (!book.isFull()) {
-                doByLot((int) lot);
-            }
+            doByLot((int) lot);
         }
         return book.size;
     }
@@ -425,9 +415,6 @@ public final class CrissMerger {
         }
         upperTold = book.partsBy(v, by);
         lowerTold = WHOLE;
-        if (upperTold == 0) {
-            lowerTold = 1;
-        }
         for (int i = 0; i < VERSIONS && upperTold % 2 == 0 && lowerTold % 2 == 0; i++) {
             upperTold /= 2;
             lowerTold /= 2;
@@ -627,27 +614,27 @@ public final class CrissMerger {
         return h;
     }
 
-    private int refusalToMerge(int a, int b) {
-        if (!isPair(a, b)) {
+    /**
+     * Two VERSIONS MERGED to a Tree alone: 0, or why not. Turned is only what comes by this MERGE, not what comes in
+     * the COMMON: that is the same one either way round.
+     */
+    private int mergeAside(Tree to, int ours, int theirs, boolean turned) {
+        if (!isPair(ours, theirs)) {
             return BAD;
         }
-        return book.isAncestor(a, b) || book.isAncestor(b, a) ? STATE : 0;
-    }
-
-    private boolean mergeTo(Tree to, int ours, int theirs, boolean turned) {
-        Tree base = commonOf(book, merger, ours, theirs, 0);
-        if (base == null) {
-            return false;
+        if (book.isAncestor(ours, theirs) || book.isAncestor(theirs, ours)) {
+            return STATE;
         }
+        Tree base = commonOf(book, merger, ours, theirs, 0);
         merger.turned = turned;
-        boolean fits = merger.mergeTrees(book.trees[ours], book.trees[theirs], base, to);
+        boolean fits = base != null && merger.mergeTrees(book.trees[ours], book.trees[theirs], base, to);
         merger.turned = false;
-        return fits;
+        return fits ? 0 : SPENT;
     }
 
     /**
-     * The COMMON of two VERSIONS; null: a FILE would be too long. NEAREST ones of two of which none
-     * comes from the other are lower than both, so it never goes as deep as there are VERSIONS.
+     * The COMMON of two VERSIONS; null: a FILE would be too long. Several NEAREST are lower than both VERSIONS, so it
+     * never goes as deep as there are VERSIONS.
      */
     private static Tree commonOf(Book book, Merger merger, int a, int b, int depth) {
         if (depth < 0 || depth >= VERSIONS) {
@@ -675,6 +662,9 @@ public final class CrissMerger {
     }
 
     private void doByLot(int lot) {
+        if (book.size == 0 || book.isFull()) {
+            return;
+        }
         int p = lot / 64 % book.size;
         int f = lot / 4 % FILES;
         Strip file = book.trees[p].files[f];
@@ -685,7 +675,7 @@ public final class CrissMerger {
             return;
         }
         int other = lot / 4096 % book.size;
-        if (refusalToMerge(p, other) == 0 && mergeTo(merged, p, other, false)) {
+        if (mergeAside(merged, p, other, false) == 0) {
             book.add(merged, p, other);
         }
     }
@@ -1259,10 +1249,12 @@ public final class CrissMerger {
 
         /** Adds what comes between LINES that STAY: of each row the LINES from its first number up to its second one. */
         private void addGap(int b, int bEnd, int o, int oEnd, int t, int tEnd) {
-            if (ours.isRunLike(o, oEnd, theirs, t, tEnd) || theirs.isRunLike(t, tEnd, base, b, bEnd)) {
+            if (ours.isRunLike(o, oEnd, theirs, t, tEnd)) {
                 addRun(ours, o, oEnd);
             } else if (ours.isRunLike(o, oEnd, base, b, bEnd)) {
                 addRun(theirs, t, tEnd);
+            } else if (theirs.isRunLike(t, tEnd, base, b, bEnd)) {
+                addRun(ours, o, oEnd);
             } else {
                 addNumber(OPEN);
                 addRun(turned ? theirs : ours, turned ? t : o, turned ? tEnd : oEnd);

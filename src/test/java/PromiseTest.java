@@ -383,6 +383,11 @@ public final class PromiseTest {
         write(2, "c3b2a1");
         due("book of three", x.book(2), 3);
         due("FILES", written(0, 0) + written(0, 1) + written(0, 2), "123");
+        tornOne();
+        x.would(1, 2);
+        due("behind a TORN one", x.book(0), 1);
+        due("not TORN", trait(0, 4), 0);
+        due("no PARENT", trait(0, 1), NONE);
     }
 
     private static void version() {
@@ -677,7 +682,7 @@ public final class PromiseTest {
         due("eight of them", change(0, 1, 1, 2, 3, 4, 5, 6, 7, 8), 3);
         fill(2, 1, 2, 3, 4, 5, 6, 7, 8, 10);
         fill(3, 1, 2, 10);
-        fill(4, 1, 2, 3, 4, 5, 6, 7, -1);
+        fill(4, -1, 2, 3, 4, 5, 6, 7, 8);
         refused("nine of them", () -> x.change(0, 0, 2), FINDING, SIZE);
         refused("no figure", () -> x.change(0, 0, 3), FINDING, UNLIKE);
         refused("no figure, either", () -> x.change(0, 0, 4), FINDING, UNLIKE);
@@ -779,6 +784,7 @@ public final class PromiseTest {
 
     private static void merge() {
         due("changes of both", mergedLines("45678", "40678", "45697"), "40697");
+        due("the other way round", mergedLines("45678", "45697", "40678"), "40697");
         due("a change of one", mergedLines("456", "456", "4567"), "4567");
         due("like ones once", mergedLines("4", "45", "45"), "45");
         due("unlike ones beside each other", mergedLines("4", "45", "46"), "4<5||6>");
@@ -875,6 +881,17 @@ public final class PromiseTest {
         due("numbers", x.file(6, 0, 0), 14);
         due("21, 1, 14 and 4", x.merge(3, 6), 7);
         due("numbers", x.file(7, 0, 0), 40);
+        start("a07");
+        change(0, 0, 1, 1, 1, 1, 1, 1, 1, 7);
+        change(0, 0, 2, 2, 2, 2, 2, 2, 2, 7);
+        change(0, 0, 4, 4, 4, 4, 4, 4, 7);
+        change(0, 0, 5, 5, 5, 5, 7);
+        due("LINES behind", x.merge(1, 2) + x.merge(3, 4), 11);
+        due("19, 1, 15, 4 and 1", x.merge(5, 6), 7);
+        due("numbers", x.file(7, 0, 0), 40);
+        change(4, 0, 5, 5, 5, 5, 5, 7);
+        due("one more", x.merge(3, 8), 9);
+        refused("19, 1, 16, 4 and 1", () -> x.merge(5, 9), SPENT);
     }
 
     private static void undo() {
@@ -925,7 +942,12 @@ public final class PromiseTest {
         change(4, 0, 9);
         x.undo(2);
         change(0, 0, 8);
+        due("other VERSIONS", x.merge(2, 1), 3);
+        change(2, 0, 7);
         due("on(1) again", x.on(1), 5);
+        due("ANCESTORS of 4", x.ancestors(4), 0b10111);
+        due("PARENTS of 3", trait(3, 1) * 10 + trait(3, 2), 12);
+        due("PARENTS of 4", trait(4, 1) * 10 + trait(4, 2), 21);
         due("FILE of 2", written(2, 0), "0 2 0");
         refused("on(0)", () -> x.on(0), FINDING, NOTHING);
         refused("on(3)", () -> x.on(3), BAD);
