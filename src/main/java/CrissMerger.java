@@ -1012,7 +1012,6 @@ public final class CrissMerger {
         }
 
         int waysBack(int v) {
-            Arrays.fill(tallies, 0);
             tallies[0] = 1;
             for (int x = 1; x <= v; x++) {
                 tallies[x] = tallyOf(firsts[x]) + tallyOf(seconds[x]);
