@@ -1275,7 +1275,9 @@ public final class CrissMerger {
                 spent = true;
                 return;
             }
-            System.arraycopy(list.numbers, start, out.places, out.size, length);
+            for (int i = 0; i < length; i++) {
+                out.places[out.size + i] = list.numbers[start + i];
+            }
             out.size += length;
         }
 

@@ -345,6 +345,53 @@ abstract class Edges {
         merge(1, 2);
     }
 
+    /** VERSION 7: all FILES, that 3 dropped and 6 changed, are TORN. */
+    static void tornAll() {
+        start("a1b1c1");
+        for (int f = 0; f <= 2; f++) {
+            ask("drop(" + f + ", " + f + ")");
+        }
+        change(0, 0, "5");
+        change(4, 1, "5");
+        change(5, 2, "5");
+        merge(3, 6);
+    }
+
+    /** VERSION 5, of 2 and 4: the same CONFLICT in FILES 0 and 1; FILE 2 is a 1. */
+    static void likeConflicts() {
+        start("a1b1c1");
+        change(0, 0, "2");
+        change(1, 1, "2");
+        change(0, 0, "3");
+        change(3, 1, "3");
+        merge(2, 4);
+    }
+
+    /** VERSIONS 7 and 8 merge 5 and 6 either way round, whose COMMON never was a VERSION. */
+    static void crossOfCrosses() {
+        start("a1");
+        change(0, 0, "2");
+        change(0, 0, "3");
+        merge(1, 2);
+        merge(2, 1);
+        change(3, 0, "4");
+        change(4, 0, "5");
+        merge(5, 6);
+        merge(6, 5);
+    }
+
+    /** Crossed again and again: 3 and 4 merge 1 and 2 either way round, and so on; 15 merges 13 and 14. */
+    static void ladder() {
+        start("a");
+        change(0, 1, "1");
+        change(0, 2, "2");
+        for (int v = 1; v <= 11; v += 2) {
+            merge(v, v + 1);
+            merge(v + 1, v);
+        }
+        merge(13, 14);
+    }
+
     /**
      * VERSIONS 9 and 12 have the NEAREST 3 and 6, whose FILE 0 MERGED comes to 37 numbers and as many as 5 has LINES
      * (1 .. 8): more than 40 with more than 3 of them.

@@ -184,14 +184,7 @@ final class EdgesOfHistories extends Edges {
             told("version(4, 1)", 3);
             told("version(4, 2)", 2);
             told("version(4, 4)", 2);
-            start("a1b1c1");
-            for (int f = 0; f <= 2; f++) {
-                due("drop(" + f + ", " + f + ")", f + 1);
-            }
-            change(0, 0, "5");
-            change(4, 1, "5");
-            change(5, 2, "5");
-            due("merge(3, 6)", 7);
+            tornAll();
             told("version(3, 3)", 0);
             told("version(7, 3)", 7);
             told("version(7, 4)", 7);
@@ -241,19 +234,12 @@ final class EdgesOfHistories extends Edges {
             told("version(9, 6)", 3);
         });
         sentence(12, "how deep they lie in one another at most", () -> {
-            start("a1");
-            change(0, 0, "2");
-            change(0, 0, "3");
-            merge(1, 2);
-            merge(2, 1);
-            change(3, 0, "4");
-            change(4, 0, "5");
-            due("merge(5, 6)", 7);
+            crossOfCrosses();
             fileIs(7, 0, "10 4 11 10 2 11 1 12 3 13 12 5 13");
             told("version(7, 5)", 1);
             told("version(7, 6)", 2);
-            due("merge(3, 4)", 8);
-            fileIs(8, 0, "10 3 11 1 12 2 13");
+            due("merge(3, 4)", 9);
+            fileIs(9, 0, "10 3 11 1 12 2 13");
         });
     }
 

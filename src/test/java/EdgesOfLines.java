@@ -76,12 +76,7 @@ final class EdgesOfLines extends Edges {
             start("a01234567b89012345c");
             quiet("unlike(0)", 10);
             // two CONFLICTS that are ALIKE, and one more that is not
-            start("a1b1c1");
-            change(0, 0, "2");
-            change(1, 1, "2");
-            change(0, 0, "3");
-            change(3, 1, "3");
-            due("merge(2, 4)", 5);
+            likeConflicts();
             quiet("unlike(5)", 2);
             due("merge(4, 2)", 6);
             quiet("unlike(6)", 2);
@@ -140,12 +135,7 @@ final class EdgesOfLines extends Edges {
             told("often(3, 0, 0)", 2);
             told("often(3, 0, 1)", 1);
             told("often(3, 0, 2)", 2);
-            start("a1b1");
-            change(0, 0, "2");
-            change(1, 1, "2");
-            change(0, 0, "3");
-            change(3, 1, "3");
-            due("merge(2, 4)", 5);
+            likeConflicts();
             told("often(5, 0, 0)", 2);
             told("often(5, 1, 0)", 2);
         });
@@ -250,13 +240,8 @@ final class EdgesOfLines extends Edges {
         sentence(34, "In how many WAYS BACK (unlike ones by PARENTS) one comes from a VERSION to VERSION 0.", () -> {
             start("a");
             quiet("ways(0)", 1);
-            change(0, 1, "1");
-            change(0, 2, "2");
-            for (int v = 1; v <= 11; v += 2) {
-                merge(v, v + 1);
-                merge(v + 1, v);
-            }
-            due("merge(13, 14)", 15);
+            ladder();
+            quiet("ways(0)", 1);
             long ways = 1;
             for (int v = 1; v <= 15; v += 2) {
                 quiet("ways(" + v + ")", ways);

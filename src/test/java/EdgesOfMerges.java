@@ -94,18 +94,6 @@ final class EdgesOfMerges extends Edges {
         });
     }
 
-    /** FILE 0 crossed again and again: 3 and 4 merge 1 and 2 either way round, and so on, up to 15. */
-    private static void ladder() {
-        start("a");
-        change(0, 1, "1");
-        change(0, 2, "2");
-        for (int v = 1; v <= 11; v += 2) {
-            merge(v, v + 1);
-            merge(v + 1, v);
-        }
-        same("VERSIONS", merge(13, 14), 15L);
-    }
-
     private static void commonOfOneOrTwo() {
         sentence(18, "Their COMMON is like a VERSION, but need not be one: if there is one NEAREST, that;", () -> {
             crissCross();
@@ -130,15 +118,7 @@ final class EdgesOfMerges extends Edges {
             due("merge(3, 4)", 6);
             fileIs(6, 0, "0 10 2 11 0 12 1 13 0");
             // the COMMON of the NEAREST never was one, either
-            start("a1");
-            change(0, 0, "2");
-            change(0, 0, "3");
-            merge(1, 2);
-            merge(2, 1);
-            change(3, 0, "4");
-            change(4, 0, "5");
-            merge(5, 6);
-            merge(6, 5);
+            crossOfCrosses();
             quiet("nearest(7, 8)", 0b1100000);
             commonIs(7, 8, 0, "10 4 11 10 2 11 1 12 3 13 12 5 13");
             commonIs(8, 7, 0, "10 4 11 10 2 11 1 12 3 13 12 5 13");

@@ -329,14 +329,7 @@ final class EdgesOfTelling extends Edges {
 
     private static void countEdges() {
         sentence(39, "6 TORN FILES of all, 7 LINES of all, 8 ROWS, 9 TEXTS that are there, 10 kept BOOKS.", () -> {
-            start("a1b1c1");
-            for (int f = 0; f <= 2; f++) {
-                due("drop(" + f + ", " + f + ")", f + 1);
-            }
-            change(0, 0, "5");
-            change(4, 1, "5");
-            change(5, 2, "5");
-            due("merge(3, 6)", 7);
+            tornAll();
             quiet("count(6)", 3);
             change(7, 0, "6");
             quiet("count(6)", 5);
